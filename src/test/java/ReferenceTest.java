@@ -22,7 +22,7 @@ public final class ReferenceTest {
     }
 
     public static void main(String[] args) {
-        int runs = args.length > 0 ? Integer.parseInt(args[0]) : 400;
+        int runs = args.length > 0 ? Integer.parseInt(args[0]) : 250;
         int first = args.length > 1 ? Integer.parseInt(args[1]) : 1;
         int wrong = 0;
         for (int seed = first; seed < first + runs && wrong < 3; seed++) {
@@ -36,7 +36,25 @@ public final class ReferenceTest {
         }
     }
 
+    /** Beaters at most of the places, in half of the runs all of one period. */
+    private void settle() {
+        boolean alike = lots.nextBoolean();
+        int shared = small ? 2 + lots.nextInt(11) : 2 + lots.nextInt(98);
+        for (int p : places) {
+            int n = alike ? shared : small ? 2 + lots.nextInt(11) : 2 + lots.nextInt(98);
+            int f = lots.nextInt(n);
+            int q = lots.nextInt(3) == 0 ? lots.nextInt(n) : 0;
+            if (lots.nextInt(8) > 0) {
+                both("beater(" + p + ", " + n + ", " + f + ", " + q + ")", () -> x.beater(p, n, f, q), () -> y.beater(p, n, f, q));
+            }
+            if (alike && lots.nextInt(4) == 0) {
+                both("leastPush()", x::leastPush, y::leastPush);
+            }
+        }
+    }
+
     private boolean go() {
+        settle();
         int calls = 20 + lots.nextInt(80);
         for (int i = 0; i < calls && same; i++) {
             call();
@@ -73,6 +91,11 @@ public final class ReferenceTest {
         return places[lots.nextInt(places.length)];
     }
 
+    private int other(int place) {
+        int other = place();
+        return other == place ? place() : other;
+    }
+
     private int anyPeriod() {
         return small ? number(2, 12) : number(2, 99);
     }
@@ -84,7 +107,7 @@ public final class ReferenceTest {
             int f = number(0, Math.max(1, n - 1)), q = lots.nextInt(3) == 0 ? number(0, Math.max(1, n - 1)) : 0;
             both("beater(" + p + ", " + n + ", " + f + ", " + q + ")", () -> x.beater(p, n, f, q), () -> y.beater(p, n, f, q));
         } else if (kind < 24) {
-            int a = place(), b = place(), d = number(1, lots.nextBoolean() ? 4 : 30), s = number(1, 9);
+            int a = place(), b = other(a), d = number(1, lots.nextBoolean() ? 4 : 30), s = number(1, 9);
             both("link(" + a + ", " + b + ", " + d + ", " + s + ")", () -> x.link(a, b, d, s), () -> y.link(a, b, d, s));
         } else if (kind < 30) {
             int p = place(), k = number(0, 3), by = number(-9, 9);
@@ -125,7 +148,7 @@ public final class ReferenceTest {
     }
 
     private void askPair(int kind) {
-        int p = place(), o = place(), n = anyPeriod(), f = number(0, n);
+        int p = place(), o = other(p), n = anyPeriod(), f = lots.nextInt(10) == 0 ? number(0, n) : lots.nextInt(6);
         if (kind < 3) {
             both("map(" + p + ", " + o + ", " + f + ")", () -> x.map(p, o, f), () -> y.map(p, o, f));
         } else if (kind < 6) {
