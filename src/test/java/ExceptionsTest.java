@@ -58,8 +58,14 @@ public final class ExceptionsTest {
             case "emptyNoisy" -> Meadows.emptyNoisy();
             case "nine" -> Meadows.nine();
             case "full" -> Meadows.full();
-            default -> Meadows.held();
+            default -> heldForAWhile();
         };
+    }
+
+    private static PulseMeadow heldForAWhile() {
+        PulseMeadow x = Meadows.held();
+        x.run(3);
+        return x;
     }
 
     private static Class<?> thrown(Supplier<Object> call) {

@@ -14,7 +14,9 @@ public final class PairEdgesTest {
         justShortEnough();
         periodsOfATongue();
         tooLongOnesAside();
+        pairsAtAllPlaces();
         nothingOfNowChanges();
+        nothingIsLeftBehind();
         DUE.end();
     }
 
@@ -138,6 +140,7 @@ public final class PairEdgesTest {
             }
         }
         lockedByPhase();
+        lockedByQuietTime();
     }
 
     private static PulseMeadow twoLinked(int phase, int quiet) {
@@ -169,6 +172,33 @@ public final class PairEdgesTest {
         x.answer(1, 3, 0);
         x.link(0, 1, 3, 3);
         return x;
+    }
+
+    /** The second one, of the period 4, is held for a tick at its phase 3 and hurried at its phase 2. */
+    private static PulseMeadow byQuiet(int first, int phase, int quiet) {
+        PulseMeadow x = new PulseMeadow();
+        x.beater(0, 5, first, 0);
+        x.beater(1, 40, phase, quiet);
+        x.answer(1, 0, 0);
+        x.answer(1, 1, 0);
+        x.answer(1, 2, 1);
+        x.answer(1, 3, -1);
+        x.link(0, 1, 1, 1);
+        return x;
+    }
+
+    private static void lockedByQuietTime() {
+        // The first signal comes at the phase (phase + 5 - first) mod 4; later ones at ever later phases,
+        // until they hold it at 3; at 2 it is hurried by those that it heeds there.
+        for (int first = 0; first < 5; first++) {
+            for (int phase = 0; phase < 40; phase++) {
+                int comes = (Math.min(phase, 3) + 5 - first) % 4;
+                for (int quiet = 0; quiet < 40; quiet++) {
+                    boolean due = comes == 3 || quiet >= 3;
+                    DUE.is(due, byQuiet(first, phase, quiet).locks(0, 1, 4));
+                }
+            }
+        }
     }
 
     private static void twoAloneForLocking() {
@@ -275,6 +305,71 @@ public final class PairEdgesTest {
         }
         DUE.is(due, held.tongue(0, 1));
         DUE.is(true, due < 98);
+    }
+
+    /** Two beaters with all that can be told of them, at these places. */
+    private static PulseMeadow twoAt(int place, int other) {
+        PulseMeadow x = new PulseMeadow();
+        x.beater(place, 11, 4, 2);
+        x.beater(other, 9, 6, 1);
+        int[] answers = {2, -1, 1, -2};
+        for (int quarter = 0; quarter < 4; quarter++) {
+            x.answer(place, quarter, answers[quarter]);
+            x.answer(other, quarter, answers[3 - quarter]);
+        }
+        x.link(place, other, 3, 2);
+        x.link(other, place, 4, 1);
+        int third = 0;
+        while (third == place || third == other) {
+            third++;
+        }
+        x.link(place, third, 1, 5);
+        x.link(third, other, 1, 5);
+        return x;
+    }
+
+    private static String allOf(PulseMeadow x, int place, int other) {
+        StringBuilder text = new StringBuilder();
+        for (int phase = 0; phase < 9; phase++) {
+            text.append(x.map(place, other, phase)).append(' ');
+        }
+        for (int period = 2; period < 30; period++) {
+            text.append(x.locks(place, other, period)).append(' ');
+        }
+        return text.append(x.tongue(place, other)).toString();
+    }
+
+    private static void pairsAtAllPlaces() {
+        DUE.promise(24, "two beaters alone, at whatever places they are, 0 to 15");
+        String due = allOf(twoAt(1, 2), 1, 2);
+        for (int place = 0; place < 16; place++) {
+            for (int other = 0; other < 16; other++) {
+                if (other != place) {
+                    DUE.is(due, allOf(twoAt(place, other), place, other));
+                }
+            }
+        }
+    }
+
+    private static void nothingIsLeftBehind() {
+        DUE.promise(24, "no signal is under way, whatever was asked just ahead of it, in whichever tick");
+        PulseMeadow x = twoAt(0, 15);
+        String due = maps(twoAt(0, 15));
+        for (int tick = 0; tick < 40; tick++) {
+            DUE.is(true, x.strip(0) >= 0);
+            DUE.is(due, maps(x));
+            x.locks(15, 0, 7);
+            DUE.is(due, maps(x));
+            x.run(1);
+        }
+    }
+
+    private static String maps(PulseMeadow x) {
+        StringBuilder text = new StringBuilder();
+        for (int phase = 0; phase < 9; phase++) {
+            text.append(x.map(0, 15, phase)).append(' ');
+        }
+        return text.toString();
     }
 
     private static void nothingOfNowChanges() {

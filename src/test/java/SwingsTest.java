@@ -13,6 +13,9 @@ public final class SwingsTest {
             new SwingsTest().driven(99, 1, pull, true);
             new SwingsTest().driven(99, 1, pull, false);
         }
+        for (int pull : new int[] {0, 1, 99}) {
+            new SwingsTest().drivenApart(pull);
+        }
         new SwingsTest().damped();
         DUE.end();
     }
@@ -107,6 +110,47 @@ public final class SwingsTest {
             sway(i / 173 * 173 + 16 > i ? stiff : slack, pull, 1);
             compare();
         }
+    }
+
+    /** Two swings go out of all bounds at once, one to each side, while a third one rests between them. */
+    private void drivenApart(int pull) {
+        DUE.promise(36, "sway, driven apart");
+        put(16, 1000);
+        put(17, -1000);
+        put(18, 0);
+        put(19, 0);
+        // Slack while they go outward, stiff while they come back.
+        float before = 0;
+        for (int i = 0; i < 30000 && isFinite(16); i++) {
+            float angle = Float.intBitsToFloat(y.angleBits(16));
+            boolean outward = angle > 0 == angle > before;
+            before = angle;
+            sway(outward ? 1 : 99, pull, 1);
+        }
+        compare();
+        DUE.is(false, isFinite(16));
+        DUE.is(true, isFinite(18) && !isFinite(17));
+        for (int i = 0; i < 3; i++) {
+            sway(50, pull, 1);
+            compare();
+        }
+        // One that is put anew beside them is lost with the next step.
+        put(19, 500);
+        compare();
+        sway(50, pull, 1);
+        compare();
+        put(16, 3);
+        put(17, 4);
+        put(18, 5);
+        put(19, 6);
+        compare();
+        sway(50, pull, 20);
+        compare();
+        DUE.is(true, isFinite(16) && isFinite(19));
+    }
+
+    private boolean isFinite(int place) {
+        return Float.isFinite(Float.intBitsToFloat(y.angleBits(place)));
     }
 
     /** The other way round, until nothing is left that a float holds. */

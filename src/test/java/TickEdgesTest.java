@@ -244,10 +244,11 @@ public final class TickEdgesTest {
         DUE.fails(Due.ARGUMENT, () -> x.run(501));
         DUE.is(517, x.tick());
         PulseMeadow y = new PulseMeadow();
-        for (int i = 1; i <= 510; i++) {
+        // The last of the 512 calls that an object is used for.
+        for (int i = 1; i <= 511; i++) {
             y.run(500);
         }
-        DUE.is(255000, y.tick());
+        DUE.is(255500, y.tick());
     }
 
     private static void flashesSincePut() {

@@ -10,6 +10,7 @@ public final class WayEdgesTest {
         oneBeater();
         justShortEnough();
         justTooLong();
+        cycleOf1000();
         longLeads();
         signalsAsPartOfAState();
         strengthsSummedUp();
@@ -29,6 +30,8 @@ public final class WayEdgesTest {
         sharesAtTheEdges();
         meanAtTheEdges();
         alwaysTrue();
+        changesShowAtOnce();
+        askingChangesNothing();
         DUE.end();
     }
 
@@ -181,6 +184,31 @@ public final class WayEdgesTest {
         DUE.is(0, x.lead());
     }
 
+    private static void cycleOf1000() {
+        DUE.promise(16, "a cycle of 1000 without a lead is not too long, with a lead of 1 it is");
+        // The second one is 1 later in each 25 ticks, so that both are back in 125; the third one has 8.
+        PulseMeadow x = Meadows.beaters(25, 0, 20, 16, 8, 0);
+        for (int quarter = 0; quarter < 4; quarter++) {
+            x.answer(1, quarter, -1);
+        }
+        x.link(0, 1, 1, 1);
+        DUE.fails(Due.ARITHMETIC, () -> x.cycle());
+        DUE.fails(Due.ARITHMETIC, () -> x.lead());
+        DUE.fails(Due.ARITHMETIC, () -> x.beats(2));
+        DUE.is(true, x.isTrue());
+        x.run(1);
+        DUE.is(1000, x.cycle());
+        DUE.is(0, x.lead());
+        DUE.is(40, x.beats(0));
+        DUE.is(48, x.beats(1));
+        DUE.is(125, x.beats(2));
+        DUE.is(3, x.groups());
+        DUE.is(1, x.order(0));
+        DUE.is(true, x.order(212) >= 0);
+        DUE.fails(Due.NO_ELEMENT, () -> x.order(213));
+        DUE.is(true, x.isTrue());
+    }
+
     /** The second one comes 1 later each time, until it is in step with the first one. */
     private static PulseMeadow late(int first, int second) {
         PulseMeadow x = new PulseMeadow();
@@ -234,6 +262,22 @@ public final class WayEdgesTest {
             x.run(1);
             x.cut(0);
             // The phases alone return each 3rd tick; the signal is gone when it came.
+            DUE.is(delay, x.lead());
+            DUE.is(3, x.cycle());
+        }
+        // To the first one as well, and to the one at the last place.
+        for (int delay = 1; delay <= 30; delay++) {
+            PulseMeadow x = new PulseMeadow();
+            x.beater(0, 3, 2, 2);
+            x.beater(15, 3, 2, 2);
+            for (int quarter = 0; quarter < 4; quarter++) {
+                x.answer(0, quarter, 0);
+                x.answer(15, quarter, 0);
+            }
+            int to = delay % 2 == 0 ? 0 : 15;
+            x.link(15 - to, to, delay, 1);
+            x.run(1);
+            x.cut(0);
             DUE.is(delay, x.lead());
             DUE.is(3, x.cycle());
         }
@@ -351,6 +395,14 @@ public final class WayEdgesTest {
             DUE.is(0, together.groupOf(place));
             DUE.is(place % 5, turns.groupOf(place));
         }
+        // Asked first, and anew as the beaters change.
+        DUE.is(2, Meadows.row(5, 9).groupOf(2));
+        PulseMeadow changed = Meadows.row(5, 9);
+        DUE.is(3, changed.groupOf(3));
+        changed.push(2, -1);
+        DUE.is(2, changed.groupOf(3));
+        changed.push(3, -2);
+        DUE.is(1, changed.groupOf(3));
         int[] phases = {7, 3, 7, 1, 3, 0};
         int[] due = {0, 1, 0, 2, 1, 3};
         PulseMeadow x = new PulseMeadow();
@@ -584,6 +636,25 @@ public final class WayEdgesTest {
             x.link(0, place, 9, 1);
         }
         DUE.is(10, x.leastPush());
+        oneLessNotTheWhole();
+    }
+
+    /** A signal comes in the next tick, and holds the second one if its phase is its period less 1. */
+    private static void oneLessNotTheWhole() {
+        for (int second = 0; second < 8; second++) {
+            PulseMeadow x = Meadows.beaters(10, 9, 8, 0);
+            for (int quarter = 0; quarter < 4; quarter++) {
+                x.answer(1, quarter, quarter < 3 ? 0 : -1);
+            }
+            x.link(0, 1, 8, 1);
+            x.link(0, 1, 9, 1);
+            x.run(9);
+            x.push(1, -99);
+            x.push(1, second);
+            DUE.is(8, x.phase(0));
+            DUE.is(1, x.waiting(1));
+            DUE.is(second == 7 ? 0 : 2, x.leastPush());
+        }
     }
 
     /** The first one, of the period 10, holds the second one, of the period 9, back by 1 in its last quarter. */
@@ -681,5 +752,97 @@ public final class WayEdgesTest {
             x.push(0, 99);
             DUE.is(true, x.isTrue());
         }
+    }
+
+    private interface Change {
+        void on(PulseMeadow x);
+    }
+
+    /** What is told of the way behind a change, if it was asked for ahead of it too, or not. */
+    private static void shows(Change change) {
+        PulseMeadow x = Meadows.few();
+        PulseMeadow y = Meadows.few();
+        String before = wayOf(x);
+        change.on(x);
+        change.on(y);
+        DUE.is(wayOf(y), wayOf(x));
+        DUE.is(false, before.equals(wayOf(x)));
+        DUE.is(Told.of(y), Told.of(x));
+    }
+
+    private static String wayOf(PulseMeadow x) {
+        try {
+            StringBuilder text = new StringBuilder();
+            text.append(x.cycle()).append(' ').append(x.lead());
+            int flashes = x.beats(0) + x.beats(1) + x.beats(4);
+            for (int i = 0; i < Math.min(flashes, 8); i++) {
+                text.append(' ').append(x.order(i));
+            }
+            return text.toString();
+        } catch (ArithmeticException e) {
+            return "too long";
+        }
+    }
+
+    private static void changesShowAtOnce() {
+        DUE.promise(16, "the way is that from now, whatever changed just ahead of it");
+        shows(x -> x.beater(1, 11, 3, 0));
+        shows(x -> x.beater(15, 13, 3, 0));
+        shows(x -> x.period(0, 11));
+        shows(x -> x.answer(1, 1, -1));
+        shows(x -> x.link(4, 1, 3, 7));
+        shows(x -> x.cut(0));
+        shows(x -> x.net('a', 7, 3));
+        shows(x -> x.run(1));
+        shows(x -> x.push(1, 2));
+    }
+
+    private static void asked(PulseMeadow x) {
+        for (int turn = 0; turn < 2; turn++) {
+            x.tick();
+            x.phase(0);
+            x.flashes(1);
+            x.last(4);
+            x.waiting(1);
+            x.strip(4);
+            x.cycle();
+            x.lead();
+            x.beats(1);
+            x.inStep(0, 4);
+            x.groups();
+            x.groupOf(4);
+            x.islands();
+            x.order(0);
+            x.fits();
+            x.guess(0);
+            x.angleBits(18);
+            x.energyBits();
+            x.stepShare();
+            x.meanPhase();
+            x.checksum();
+            x.isTrue();
+        }
+    }
+
+    private static void askingChangesNothing() {
+        DUE.promise(16, "what is asked alone changes nothing");
+        PulseMeadow few = Meadows.few();
+        asked(few);
+        DUE.is(Told.of(Meadows.few()), Told.of(few));
+        PulseMeadow full = Meadows.full();
+        asked(full);
+        DUE.is(Told.of(Meadows.full()), Told.of(full));
+        PulseMeadow row = Meadows.row(8, 9);
+        row.net('a', 2, 1);
+        row.run(5);
+        PulseMeadow same = Meadows.row(8, 9);
+        same.net('a', 2, 1);
+        same.run(5);
+        DUE.is(same.leastPush(), row.leastPush());
+        row.leastPush();
+        same = Meadows.row(8, 9);
+        same.net('a', 2, 1);
+        same.run(5);
+        DUE.is(Told.of(same), Told.of(row));
     }
 }
