@@ -19,7 +19,9 @@ public final class FaceTest {
         face();
         nothingElseShows();
         fields();
+        sizes();
         words();
+        makesNothingLater();
         DUE.end();
     }
 
@@ -93,10 +95,42 @@ public final class FaceTest {
         }
     }
 
+    private static void sizes() {
+        DUE.promise(0, "rule 11");
+        List<Class<?>> classes = new ArrayList<>(Arrays.asList(PulseMeadow.class.getDeclaredClasses()));
+        classes.add(PulseMeadow.class);
+        DUE.is(true, classes.size() <= 12);
+        for (Class<?> c : classes) {
+            for (Method m : c.getDeclaredMethods()) {
+                DUE.is(true, m.getParameterCount() <= 7);
+            }
+        }
+    }
+
+    private static String text() throws Exception {
+        return Files.readString(Path.of("src/main/java/PulseMeadow.java"));
+    }
+
+    /** The text without comments, and without what stands in quotes. */
+    private static String bare(String text) {
+        return text.replaceAll("(?s)/\\*.*?\\*/", "").replaceAll("//[^\n]*", "").replaceAll("\"[^\"]*\"", "\"\"");
+    }
+
+    private static void makesNothingLater() throws Exception {
+        DUE.promise(0, "rule 12: what is made is made with the meadow, exceptions aside");
+        for (String line : bare(text()).split("\n")) {
+            boolean field = line.matches(" +private final .* = new .*;");
+            boolean thrown = line.matches(" +throw new \\w+\\(\"\"\\);");
+            if (Pattern.compile("\\bnew\\b|\\bclone\\b|\\bArrays\\b").matcher(line).find() && !field && !thrown) {
+                DUE.is("made in a field or thrown", line);
+            }
+        }
+    }
+
     private static void words() throws Exception {
         DUE.promise(0, "rules 3 to 13");
-        String text = Files.readString(Path.of("src/main/java/PulseMeadow.java"));
-        String bare = text.replaceAll("(?s)/\\*.*?\\*/", "").replaceAll("//[^\n]*", "").replaceAll("\"[^\"]*\"", "\"\"");
+        String text = text();
+        String bare = bare(text);
         String[] never = {"->", "::", "\\bcatch\\b", "\\btry\\b", "\\bfinally\\b", "\\bassert\\b", "\\bsynchronized\\b",
             "Exact\\b", "\\bnew int\\[[^\\]]*\\]\\[", "\\bFloat\\.", "\\bDouble\\.", "\"\" *\\+", "\\+ *\"\"", "\\bObject\\b"};
         for (String word : never) {
